@@ -18,9 +18,11 @@ public final class PromisesTest {
         promise11Told();
         promise11Faults();
         promise11Refused();
+        promise11FullTexts();
         promise12();
         promise12Drips();
         promise13();
+        promise13MoreThanTwelve();
         promise14And15();
         promise16();
         promise17();
@@ -35,6 +37,7 @@ public final class PromisesTest {
         promise27();
         promise28();
         promise29();
+        promise29FirstOfAll();
         promise30();
         promise31();
         promise32And33();
@@ -369,6 +372,34 @@ public final class PromisesTest {
         due("11 told anew: nothing is BURNT", x.read(), 2);
     }
 
+    /** Nothing behind THE TEXT is looked at: neither bytes of an older one, nor the end of the room. */
+    private static void promise11FullTexts() {
+        CandleHouse x = new CandleHouse();
+        type(x, "candle 12;");
+        type(x, "candle 1");
+        due("11 an older TEXT's figure", x.read(), -18);
+        type(x, "candle 12;doors");
+        type(x, "candle 12;door");
+        due("11 an older TEXT's letter", x.read(), -24);
+        type(x, "candle 1;");
+        due("11 candle alone", x.read(), 1);
+        due("11 candle alone is told", x.count(0), 1);
+        String items = "candle 9;" + "door 1;".repeat(5) + "open 0;open 1;";
+        String blanks = " ".repeat(149 - items.length());
+        String[] ends = {" ", ";", "7", "x"};
+        int[] due = {8, -159, -159, -159};
+        for (int i = 0; i < ends.length; i++) {
+            type(x, items + blanks + ends[i]);
+            due("11 bytes", x.count(9), 150);
+            due("11 no byte behind: " + ends[i], x.read(), due[i]);
+        }
+        type(x, items + blanks.substring(3) + "door");
+        due("11 ends too early in no room", x.read(), -160);
+        due("11 a word that is one but for its first letter", read("dandle 3;"), -10);
+        due("11 a word that is one but for its last letter", read("candlf 3;"), -10);
+        due("11 a word that is but begun", read("candl 3;"), -10);
+    }
+
     private static void promise12() {
         CandleHouse x = new CandleHouse();
         int[] wrong = {0, -1, 21, MAX, MIN};
@@ -431,6 +462,17 @@ public final class PromisesTest {
         due("13 MINUTES", x.count(3), 8);
         due("13 BURNT", x.count(1), 32);
         due("13 none counts as NO", x.status(1), 3);
+    }
+
+    /** 6 a MINUTE (1 drips), in 14 MINUTES; then the last twelve of them are undone one by one. */
+    private static void promise13MoreThanTwelve() {
+        CandleHouse x = told("candle 20;thick 19 9;thick 18 9;door 3;door 2;open 0;open 1;");
+        x.minute(14);
+        for (int left = 13; left >= 2; left--) {
+            due("13 undo", x.undo(), 1);
+            dueCounts("13 behind " + left, x, 20, 6 * left, 90, left, 2, 0, 0, left, left - 2);
+        }
+        due("13 no more", x.undo(), NO);
     }
 
     private static void promise14And15() {
@@ -738,6 +780,11 @@ public final class PromisesTest {
         due("27 behind 200", y.tallow(0, 1), 200);
         y.pin(0, 13);
         due("27 not within 200", y.tallow(1, 1), NONE);
+        y.thick(11, 2);
+        y.member(2, 0, 0, 1);
+        due("27 behind 201", y.tallow(0, 1), NONE);
+        y.member(2, 0, 1, 2);
+        due("27 behind 200", y.tallow(0, 1), 200);
     }
 
     private static void promise28() {
@@ -793,6 +840,28 @@ public final class PromisesTest {
         CandleHouse y = told("candle 3;door 1;door 1;pin 0 1;pin 1 1;member 0 0 1 2;member 0 1 3 4;");
         due("29 2 or 3 a MINUTE, both in 1", y.game(0, 0, 1, 1, 0), 2);
         due("29 2 or 3 a MINUTE, both in 1", y.game(0, 0, 1, 1, 1), 10);
+    }
+
+    /** Each is the first question of its object, and hangs on BREATH: 4 drops above the PIN burn in MINUTES 0 and 1. */
+    private static void promise29FirstOfAll() {
+        String text = "candle 3;door 1;door 0;pin 0 1;member 5 0 1 2;member 0 1 2 9;";
+        due("18 falls", told(text).falls(0), 1);
+        due("19 out", told(text).out(), 9);
+        due("20 whose", told(text).whose(0), 0);
+        due("21 reads", told(text).reads(99, 5, 0), 10);
+        due("22 set", told(text).set(0, 1, 1), 1);
+        due("23 shut", told(text).shut(0, 1), 0);
+        due("23 shut", told(text).shut(0, 2), NONE);
+        CandleHouse x = told(text);
+        x.lean(0, 1);
+        due("25 leaned", x.leaned(0), 4);
+        due("27 tallow", told(text).tallow(0, 1), 6);
+        due("28 race", told(text).race(3, 1), 1);
+        due("28 race", told(text).race(7, 2), 0);
+        due("28 race", told(text).race(9, 3), 1);
+        due("28 race", told(text).race(4, 1), 0);
+        due("29 game", told(text).game(1, 0, 0, 1, 0), 4);
+        due("29 game", told("candle 3;thick 0 3;door 1;door 0;pin 0 1;member 5 0 1 2;member 0 1 0 1;").game(0, 0, 1, 1, 0), 4);
     }
 
     private static void promise30() {
