@@ -38,6 +38,8 @@ public final class BoundsOfFallsTest {
         raceOfTheTallest();
         gameOfNothing();
         gameThatNeverRests();
+        gameByOtherDoors();
+        gameOfGainAndLoss();
         gameRefused();
         mothsByW();
         mothsWrapAround();
@@ -87,9 +89,30 @@ public final class BoundsOfFallsTest {
             DUE.is("18 by " + open + " DOORS", tallWithDoors(open).falls(0), FALL_BY_OPEN[open]);
         }
         WATCH.asked("18 in SLICE 0", () -> Watch.told("candle 1;pin 0 0;"), x -> x.falls(0), 0);
+        breathOfMinutesToCome();
         WATCH.refused("18 PIN -1", () -> Watch.told(PIN_IN_3), x -> x.falls(-1), TEN, Watch.AS_BAD);
         WATCH.refused("18 PIN 1 of 1", () -> Watch.told(PIN_IN_3), x -> x.falls(1), TEN, Watch.AS_BAD);
         WATCH.refused("18 PIN 0 of none", CandleHouse::new, x -> x.falls(0), TEN, Watch.AS_BAD);
+    }
+
+    /** BREATH of a MINUTE to come: a patron is IN in MINUTE 1 alone, so 4 drops are BURNT behind it; at 12 in MINUTE 9. */
+    private static void breathOfMinutesToCome() {
+        String text = PIN_IN_3 + "door 0;door 0;member 5 1 1 2;";
+        Watch.Making told = () -> {
+            CandleHouse x = Watch.told(text);
+            x.lean(0, 1);
+            return x;
+        };
+        WATCH.asked("18 by BREATH", () -> Watch.told(text), x -> x.falls(0), 1);
+        WATCH.asked("19 by BREATH", () -> Watch.told(text), CandleHouse::out, 9);
+        WATCH.asked("20 by BREATH", () -> Watch.told(text), x -> x.whose(0), 1);
+        WATCH.asked("21 by BREATH", () -> Watch.told(text), x -> x.reads(99, 5, 0), 10);
+        WATCH.asked("22 by BREATH", () -> Watch.told(text), x -> x.set(1, 1, 1), 1);
+        WATCH.asked("23 by BREATH", () -> Watch.told(text), x -> x.shut(0, 2), NONE);
+        WATCH.asked("25 by BREATH", told, x -> x.leaned(0), 4);
+        WATCH.asked("27 by BREATH", () -> Watch.told(text), x -> x.tallow(0, 1), 6);
+        WATCH.asked("28 by BREATH", () -> Watch.told(text), x -> x.race(4, 1), 0);
+        WATCH.asked("29 by BREATH", () -> Watch.told(PIN_IN_3 + "door 1;door 0;member 5 0 1 2;"), x -> x.game(0, 0, 1, 1, 0), 4);
     }
 
     /** "none (it fell, too)". */
@@ -248,6 +271,8 @@ public final class BoundsOfFallsTest {
         String text = "candle 2;thick 0 6;door 1;door 2;open 0;open 1;pin 0 1;";
         WATCH.asked("23 one that is more, not two", () -> Watch.told(text), x -> x.shut(0, 2), 2);
         WATCH.asked("23 both", () -> Watch.told(text), x -> x.shut(0, 3), 3);
+        String three = "candle 2;thick 0 8;door 1;door 1;door 2;open 0;open 1;open 2;pin 0 1;";
+        WATCH.asked("23 the third alone, not the first two", () -> Watch.told(three), x -> x.shut(0, 2), 4);
     }
 
     /** "of those that are open". */
@@ -520,6 +545,31 @@ public final class BoundsOfFallsTest {
         WATCH.asked("29 both lose by it: the first", () -> Watch.told(text), x -> x.game(1, 0, 2, 1, 1), 1);
     }
 
+    /** Their two DOORS may be open already; others stay as they are. */
+    private static void gameByOtherDoors() {
+        String text = "candle 2;thick 0 6;door 1;door 1;door 3;pin 0 1;member 0 0 1 2;member 0 0 5 6;";
+        String[] opened = {"", "open 0;", "open 1;", "open 0;open 1;"};
+        for (String o : opened) {
+            WATCH.asked("29 none rests: " + o, () -> Watch.told(text + o), x -> x.game(0, 0, 1, 1, 0), 0);
+            WATCH.asked("29 by 4, 5 or 6, two: " + o, () -> Watch.told(text + o + "open 2;"), x -> x.game(0, 0, 1, 1, 0), 2);
+            WATCH.asked("29 by 4, 5 or 6, the first: " + o, () -> Watch.told(text + o + "open 2;"), x -> x.game(0, 0, 1, 1, 1), 0);
+            WATCH.asked("29 by 4, 5 or 6: " + o, () -> Watch.told(text + o + "open 2;"), x -> x.game(1, 1, 0, 0, 1), 0);
+        }
+    }
+
+    /** "gains 1 for each PIN of its own .. loses 1 for each PIN of any other PARTY": by 2 a MINUTE each of two PINS pays its own. */
+    private static void gameOfGainAndLoss() {
+        String text = "candle 3;door 1;door 0;pin 0 1;pin 1 2;member 0 0 1 2;member 0 1 3 4;";
+        WATCH.asked("29 1 less 1 is as much as 0", () -> Watch.told(text), x -> x.game(0, 0, 1, 1, 0), 4);
+        WATCH.asked("29 1 less 1 is as much as 0", () -> Watch.told(text), x -> x.game(1, 0, 0, 1, 0), 4);
+        WATCH.asked("29 2 less", () -> Watch.told(text), x -> x.game(2, 0, 0, 1, 0), 2);
+        WATCH.asked("29 2 less", () -> Watch.told(text), x -> x.game(0, 1, 2, 0, 1), 0);
+        WATCH.asked("29 2 less 1 is more", () -> Watch.told(text + "pin 0 1;"), x -> x.game(0, 0, 1, 1, 1), 10);
+        WATCH.asked("29 1 less 2 is less", () -> Watch.told(text + "pin 1 2;"), x -> x.game(0, 0, 1, 1, 0), 2);
+        WATCH.asked("29 1 less 2 is less", () -> Watch.told(text + "pin 1 2;"), x -> x.game(0, 0, 1, 1, 1), 0);
+        WATCH.asked("29 another's in this one's house is nothing", () -> Watch.told(text + "pin 2 1;"), x -> x.game(0, 0, 1, 1, 0), 4);
+    }
+
     /** "BAD: alike PARTIES or DOORS, too: -10." */
     private static void gameRefused() {
         String text = "candle 3;door 1;door 3;door 2;pin 0 1;member 0 0 0 9;";
@@ -573,6 +623,11 @@ public final class BoundsOfFallsTest {
                 CandleHouse x = tall();
                 DUE.is("30 SEED " + seed + ", " + m + " MINUTES", x.moths(m, 50, seed), burning);
                 DUE.is("30 nothing is BURNT by it", x.count(1), 0);
+                int w = left(seed, m);
+                int more = x.moths(m, w, seed) - x.moths(m - 1, w, seed);
+                DUE.is("30 SEED " + seed + ", MINUTE " + m + ", not less than w", more, 1);
+                int none = x.moths(m, w + 1, seed) - x.moths(m - 1, w + 1, seed);
+                DUE.is("30 SEED " + seed + ", MINUTE " + m + ", less than w", none, 0);
             }
         }
     }

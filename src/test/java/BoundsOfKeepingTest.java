@@ -104,6 +104,14 @@ public final class BoundsOfKeepingTest {
             DUE.is("33 the IMAGE has them yet", x.from(1), 1);
             DUE.is("33 the IMAGE has them yet", x.count(8), undoable);
         }
+        CandleHouse owing = full();
+        owing.minute(2);
+        owing.image(0);
+        owing.candle(1);
+        owing.minute(2);
+        owing.from(0);
+        owing.undo();
+        WATCH.counts("33 OWED as ahead of the last MINUTE", owing, 20, 5, 180, 1, 5, 9, 6, 1, 1);
     }
 
     /** "IMAGES 0, 1 keep all but them, THE TEXT and STATUS". */
