@@ -48,18 +48,9 @@ public final class BoundsOfFallsTest {
         DUE.end();
     }
 
-    private static CandleHouse tall() {
-        CandleHouse x = new CandleHouse();
-        x.candle(20);
-        for (int i = 0; i < 20; i++) {
-            x.thick(i, 9);
-        }
-        return x;
-    }
-
     /** 171 drops above its PIN; by so many open DOORS of 3: it falls in MINUTE 170, 42, 24, 17, 13, 10. */
     private static CandleHouse tallWithDoors(int open) {
-        CandleHouse x = tall();
+        CandleHouse x = Watch.tall();
         x.pin(0, 19);
         for (int i = 0; i < 5; i++) {
             x.door(3);
@@ -140,7 +131,7 @@ public final class BoundsOfFallsTest {
                 WATCH.asked("19 of " + d[0] + " behind " + m, () -> Watch.told(text, m), CandleHouse::out, m > d[1] ? NONE : d[1]);
             }
         }
-        WATCH.asked("19 the latest of all", BoundsOfFallsTest::tall, CandleHouse::out, 179);
+        WATCH.asked("19 the latest of all", Watch::tall, CandleHouse::out, 179);
         CandleHouse x = Watch.told("candle 1;", 4);
         DUE.is("19 out", x.out(), NONE);
         x.undo();
@@ -455,7 +446,7 @@ public final class BoundsOfFallsTest {
         for (int over = 0; over < due.length; over++) {
             int o = over;
             Watch.Making house = () -> {
-                CandleHouse x = tall();
+                CandleHouse x = Watch.tall();
                 x.thick(11, o < 2 ? 1 : 2);
                 x.pin(0, 12);
                 if (o % 2 == 0) {
@@ -466,7 +457,7 @@ public final class BoundsOfFallsTest {
             WATCH.asked("27 behind " + (199 + o), house, x -> x.tallow(0, 1), due[o]);
         }
         Watch.Making later = () -> {
-            CandleHouse x = tall();
+            CandleHouse x = Watch.tall();
             x.thick(11, 2);
             x.pin(0, 12);
             x.minute(2);
@@ -507,9 +498,9 @@ public final class BoundsOfFallsTest {
 
     /** "3 neither in 200" can not come: 180 drops at most, 1 a MINUTE at least. */
     private static void raceOfTheTallest() {
-        WATCH.asked("28 180 by 1 both", BoundsOfFallsTest::tall, x -> x.race(9, 1), 2);
+        WATCH.asked("28 180 by 1 both", Watch::tall, x -> x.race(9, 1), 2);
         Watch.Making sooner = () -> {
-            CandleHouse x = tall();
+            CandleHouse x = Watch.tall();
             x.member(2, 0, 98, 99);
             return x;
         };
@@ -620,7 +611,7 @@ public final class BoundsOfFallsTest {
                 for (int i = 1; i <= m; i++) {
                     burning += left(seed, i) < 50 ? 0 : 1;
                 }
-                CandleHouse x = tall();
+                CandleHouse x = Watch.tall();
                 DUE.is("30 SEED " + seed + ", " + m + " MINUTES", x.moths(m, 50, seed), burning);
                 DUE.is("30 nothing is BURNT by it", x.count(1), 0);
                 int w = left(seed, m);
@@ -642,7 +633,7 @@ public final class BoundsOfFallsTest {
             WATCH.asked("30 none behind " + m, () -> Watch.told(text, m), x -> x.moths(60, 100, 5), due[m]);
             WATCH.asked("30 all behind " + m, () -> Watch.told(text, m), x -> x.moths(60, 0, 5), 7);
         }
-        DUE.is("30 sixty MINUTES", tall().moths(60, 0, 0), 60);
+        DUE.is("30 sixty MINUTES", Watch.tall().moths(60, 0, 0), 60);
         DUE.is("30 a MEMBER in MINUTE 1 alone", Watch.told("candle 9;member 5 0 1 2;").moths(2, 0, 0), 4);
         DUE.is("30 a MEMBER in MINUTE 2 alone", Watch.told("candle 9;member 5 0 2 3;").moths(2, 0, 0), 2);
     }

@@ -25,11 +25,7 @@ public final class BoundsOfKeepingTest {
 
     /** 5 DOORS, 9 PINS, 6 MEMBERS, 150 bytes, 20 SLICES of 9; 5 and more drops a MINUTE. */
     private static CandleHouse full() {
-        CandleHouse x = new CandleHouse();
-        x.candle(20);
-        for (int i = 0; i < 20; i++) {
-            x.thick(i, 9);
-        }
+        CandleHouse x = Watch.tall();
         for (int i = 0; i < 5; i++) {
             x.door(i % 4);
         }

@@ -8,6 +8,7 @@ public final class BoundsOfMinutesTest {
     public static void main(String[] args) {
         minutesFromOneToTwenty();
         minutesOneByOne();
+        minutesFarOn();
         noMoreThanAllWax();
         drips();
         dripsOfTheLastWax();
@@ -34,7 +35,7 @@ public final class BoundsOfMinutesTest {
 
     /** A tall candle, of which so many drops burn in MINUTE 0 (1 .. 28). */
     private static CandleHouse burning(int drops) {
-        CandleHouse x = tall();
+        CandleHouse x = Watch.tall();
         int left = drops - 1;
         for (int i = 0; i < 5; i++) {
             int draught = Math.min(3, left);
@@ -44,15 +45,6 @@ public final class BoundsOfMinutesTest {
         while (left > 0) {
             x.member(left > 1 ? 5 : 2, 0, 0, 99);
             left -= Math.min(2, left);
-        }
-        return x;
-    }
-
-    private static CandleHouse tall() {
-        CandleHouse x = new CandleHouse();
-        x.candle(20);
-        for (int i = 0; i < 20; i++) {
-            x.thick(i, 9);
         }
         return x;
     }
@@ -88,6 +80,22 @@ public final class BoundsOfMinutesTest {
         }
     }
 
+    /** "MINUTES have numbers, from 0 on": thousands of them, and calls that ask for MINUTES to come then. */
+    private static void minutesFarOn() {
+        CandleHouse x = Watch.told("candle 1;pin 0 0;member 1 2 0 99;");
+        for (int i = 0; i < 400; i++) {
+            x.minute(20);
+        }
+        WATCH.counts("12 far on", x, 1, 4, 4, 8000, 0, 1, 1, 0, 12);
+        DUE.is("26 far on", x.quorum(1, 60, 0), 0);
+        DUE.is("30 far on", x.moths(60, 0, 0), 4);
+        DUE.is("19 far on", x.out(), NONE);
+        DUE.is("28 far on", x.race(1, 9), 0);
+        DUE.is("16 far on", x.burns(299), 1);
+        DUE.is("13 far on", x.undo(), 1);
+        WATCH.counts("13 far on", x, 1, 4, 4, 7999, 0, 1, 1, 0, 11);
+    }
+
     /** "no more than all wax": 4 drops a MINUTE, of 7, 8 and 9. */
     private static void noMoreThanAllWax() {
         int[][] burnt = {{4, 7, 7, 7}, {4, 8, 8, 8}, {4, 8, 9, 9}};
@@ -102,7 +110,7 @@ public final class BoundsOfMinutesTest {
         DUE.is("12 one drop", least.minute(1), 1);
         DUE.is("12 one drop", least.minute(20), 1);
         WATCH.counts("12 one drop", least, 1, 1, 1, 21, 0, 0, 0, 0, 12);
-        CandleHouse most = tall();
+        CandleHouse most = Watch.tall();
         for (int i = 0; i < 8; i++) {
             most.minute(20);
         }

@@ -115,11 +115,7 @@ public final class BoundsOfNumbersTest {
     }
 
     private static CandleHouse full() {
-        CandleHouse x = new CandleHouse();
-        x.candle(20);
-        for (int i = 0; i < 20; i++) {
-            x.thick(i, 9);
-        }
+        CandleHouse x = Watch.tall();
         for (int i = 0; i < 5; i++) {
             x.door(i % 4);
         }

@@ -29,22 +29,25 @@ final class Watch {
 
     /** The call is refused: by this answer, counted once under its reason, and nothing else changes. */
     void refused(String what, Making making, Call call, int answer, int reason) {
-        CandleHouse x = making.make();
-        long[] seen = seen(x);
-        long[] statuses = statuses(x);
-        due.is(what, call.on(x), answer);
-        statuses[reason]++;
-        same(what + ": status behind it", statuses(x), statuses);
-        same(what + ": state behind it", seen(x), seen);
-        due.holds(what + ": what is kept", depths(x).equals(depths(making.make())));
+        long[] more = new long[REASONS];
+        more[reason] = 1;
+        nothingElse(what, making, call, answer, more);
     }
 
     /** The call is a question that is answered: nothing changes, STATUS neither. */
     void asked(String what, Making making, Call call, int answer) {
+        nothingElse(what, making, call, answer, new long[REASONS]);
+    }
+
+    /** Nothing changes by the call but STATUS, by so much. */
+    private void nothingElse(String what, Making making, Call call, int answer, long[] more) {
         CandleHouse x = making.make();
         long[] seen = seen(x);
         long[] statuses = statuses(x);
         due.is(what, call.on(x), answer);
+        for (int i = 0; i < REASONS; i++) {
+            statuses[i] += more[i];
+        }
         same(what + ": status behind it", statuses(x), statuses);
         same(what + ": state behind it", seen(x), seen);
         due.holds(what + ": what is kept", depths(x).equals(depths(making.make())));
@@ -116,6 +119,16 @@ final class Watch {
         for (int i = 0; i < text.length(); i++) {
             x.type(text.charAt(i));
         }
+    }
+
+    /** As much wax as there can be: 20 SLICES of 9, 180 drops. */
+    static CandleHouse tall() {
+        CandleHouse x = new CandleHouse();
+        x.candle(20);
+        for (int i = 0; i < 20; i++) {
+            x.thick(i, 9);
+        }
+        return x;
     }
 
     static CandleHouse typed(String text) {
