@@ -107,8 +107,9 @@ public final class FaceTest {
             Matcher m = Pattern.compile(letters ? "\\b" + word + "\\b" : Pattern.quote(word)).matcher(code);
             DUE.holds("no " + word, !m.find());
         }
-        int start = 0;
         String[] lines = text.split("\n");
+        newOnlyInConstructors(code.split("\n"));
+        int start = 0;
         for (int i = 0; i < lines.length; i++) {
             if (lines[i].matches(" {4,8}[a-zA-Z].*\\) \\{")) {
                 start = i;
@@ -118,5 +119,22 @@ public final class FaceTest {
             }
             DUE.holds("plain signs: line " + i, lines[i].chars().allMatch(s -> s >= 32 && s < 127));
         }
+    }
+
+    /** All calls of a run live in one room: what is made is made with the object. */
+    private static void newOnlyInConstructors(String[] lines) {
+        boolean inConstructor = false;
+        int made = 0;
+        for (String line : lines) {
+            if (line.matches(" {4,8}[a-zA-Z].*\\) \\{")) {
+                inConstructor = line.matches(" +(public )?[A-Z][a-zA-Z]*\\(.*");
+            }
+            boolean field = line.matches(" +private final [a-zA-Z\\[\\]]+ [a-zA-Z]+ = new .*");
+            if (line.matches(".*\\bnew\\b.*")) {
+                made++;
+                DUE.holds("made with the object: " + line, field || inConstructor);
+            }
+        }
+        DUE.holds("something is made", made > 0);
     }
 }

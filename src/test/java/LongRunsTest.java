@@ -95,7 +95,7 @@ public final class LongRunsTest {
 
     private void furnish() {
         if (random.nextInt(3) == 0) {
-            planned.add("candle 20");
+            planTallCandle();
         }
         for (int i = random.nextInt(10); i > 0; i--) {
             planned.add(withNumbers("thick S 1-9"));
@@ -104,6 +104,17 @@ public final class LongRunsTest {
             planned.add("pin " + random.nextInt(3) + " " + random.nextInt(10));
             planned.add(member());
         }
+    }
+
+    /** Twice so thick, it may burn longer than 200 minutes. */
+    private void planTallCandle() {
+        planned.add("candle 20");
+        int thickest = random.nextInt(21);
+        for (int i = 0; i < thickest; i++) {
+            planned.add("thick " + i + " 9");
+        }
+        planned.add("pin " + random.nextInt(3) + " " + (10 + random.nextInt(10)));
+        planned.add("tallow 0 1");
     }
 
     private String member() {
@@ -210,8 +221,15 @@ public final class LongRunsTest {
     }
 
     private int between(String[] ends, int beyond) {
-        int least = Integer.parseInt(ends[0]) - beyond;
-        int most = Integer.parseInt(ends[1]) + beyond;
+        int least = Integer.parseInt(ends[0]);
+        int most = Integer.parseInt(ends[1]);
+        int sort = random.nextInt(12);
+        if (beyond == 1) {
+            return sort % 2 == 0 ? least - 1 : most + 1;
+        }
+        if (sort < 2) {
+            return sort == 0 ? least : most;
+        }
         return least + random.nextInt(most - least + 1);
     }
 
